@@ -1,4 +1,3 @@
-import java.lang.reflect.Array;
 import java.lang.reflect.Constructor;
 import java.lang.reflect.Executable;
 import java.lang.reflect.Field;
@@ -9,7 +8,7 @@ import java.util.Arrays;
 import java.util.List;
 import java.util.TreeSet;
 
-/** The public face, no more and no less than the document's, and the room that objects take. */
+/** The public face, no more and no less than the document's, and LANGUAGE.md's rules 1 and 5 as far as they are seen. */
 public final class FaceTests {
     private static final String THROWN = " throws IndexOutOfBoundsException IllegalArgumentException";
     private static final List<String> FACE = List.of(
@@ -28,16 +27,13 @@ public final class FaceTests {
         "public int cost(int, int)",
         "public int route(int, int, int)",
         "public int count(int)");
-    /** The room of one run has 7.3 million fields and elements, for up to 512 calls. */
-    private static final int MOST_ELEMENTS = 7_300_000 / 512;
 
     private static int wrong = 0;
 
-    public static void main(String[] args) throws IllegalAccessException {
+    public static void main(String[] args) {
         face();
         names();
         staticFields();
-        room();
         System.out.println(wrong == 0 ? "all is as due" : wrong + " things are not as due");
         if (wrong != 0) {
             System.exit(1);
@@ -102,12 +98,9 @@ public final class FaceTests {
                 open.add(method.getName());
             }
         }
-        for (Class<?> one : classes()) {
-            for (Method method : one.getDeclaredMethods()) {
-                boolean ofFace = one == RouteTracks.class && Modifier.isPublic(method.getModifiers());
-                if (!ofFace && open.contains(method.getName())) {
-                    fail(one.getSimpleName() + " has another method of the name " + method.getName());
-                }
+        for (Method method : RouteTracks.class.getDeclaredMethods()) {
+            if (Modifier.isPrivate(method.getModifiers()) && open.contains(method.getName())) {
+                fail("a private method has the name " + method.getName());
             }
         }
     }
@@ -121,43 +114,5 @@ public final class FaceTests {
                 }
             }
         }
-    }
-
-    private static void room() throws IllegalAccessException {
-        RouteTracks x = new RouteTracks(20, 20);
-        int made = elements(x);
-        if (made > MOST_ELEMENTS) {
-            fail("one object takes " + made + " fields and elements, due are at most " + MOST_ELEMENTS);
-        }
-        for (int tile = 0; tile < 100; tile++) {
-            x.lay(tile, tile % 6);
-        }
-        x.lay(100, 0);
-        x.platform(100, 0, 0);
-        x.cost(1200, 0);
-        x.route(1200, 0, 3);
-        x.count(3);
-        if (elements(x) != made) {
-            fail("an object takes " + elements(x) + " fields and elements after some calls, and " + made + " before");
-        }
-    }
-
-    /** The fields and elements of an object and of all that it holds; no part is held twice. */
-    private static int elements(Object object) throws IllegalAccessException {
-        if (object.getClass().isArray()) {
-            return Array.getLength(object);
-        }
-        int sum = 0;
-        for (Field field : object.getClass().getDeclaredFields()) {
-            if (!Modifier.isStatic(field.getModifiers())) {
-                sum++;
-                field.setAccessible(true);
-                Object held = field.get(object);
-                if (!field.getType().isPrimitive() && held != null) {
-                    sum += elements(held);
-                }
-            }
-        }
-        return sum;
     }
 }

@@ -79,31 +79,32 @@ public final class ModelTests {
             int height = number % 5 == 0 ? below(30) - 4 : 4 + below(4);
             real = new RouteTracks(width, height);
             plain = new Plain(width, height);
-            spread = Math.min(plain.tiles(), 10 + below(40));
-            stations = 1 + below(8);
+            spread = Math.min(plain.tiles(), 8 + below(number % 4 == 0 ? 60 : 16));
+            stations = number % 3 == 0 ? 8 : 1 + below(2);
         }
 
         int go() {
-            int laid = 20 + below(200);
-            int curvesOnly = below(4);
-            while (calls < laid) {
-                change(curvesOnly == 0 ? 9 : 7);
+            int first = 40 + below(200);
+            int layWeight = 4 + below(6);
+            while (calls < first) {
+                change(layWeight);
             }
-            while (calls < MOST_CALLS - 1) {
-                if (below(12) == 0) {
-                    change(5);
+            while (calls < MOST_CALLS) {
+                if (below(6) == 0) {
+                    change(3);
+                } else {
+                    ask();
                 }
-                ask();
             }
             return answered;
         }
 
         private int tile() {
-            return below(40) == 0 ? below(plain.tiles() + 8) - 4 : below(spread);
+            return below(20) == 0 ? below(plain.tiles() + 8) - 4 : below(spread);
         }
 
         private int kind() {
-            return below(40) == 0 ? below(10) - 2 : below(6);
+            return below(20) == 0 ? below(10) - 2 : below(6);
         }
 
         private int station() {
@@ -111,36 +112,51 @@ public final class ModelTests {
         }
 
         private int run() {
-            if (below(40) == 0 || plain.pieces.isEmpty()) {
-                return below(12 * plain.tiles() + 10) - 5;
+            int run = below(40) == 0 ? below(12 * plain.tiles() + 10) - 5 : 2 * somePiece() + below(2);
+            return plain.open(run) || below(4) == 0 ? run : 2 * somePiece() + below(2);
+        }
+
+        /** Mostly one that is there. */
+        private int somePiece() {
+            if (below(10) == 0 || plain.pieces.isEmpty()) {
+                return 6 * below(spread) + below(6);
             }
             List<Integer> there = new ArrayList<>(plain.pieces.keySet());
-            return 2 * there.get(below(there.size())) + below(2);
+            return there.get(below(there.size()));
         }
 
         private void change(int layWeight) {
             calls++;
-            int tile = tile();
-            int kind = kind();
-            int which = below(layWeight + 4);
-            if (which < layWeight) {
+            boolean laid = below(layWeight + 3) < layWeight;
+            int some = somePiece();
+            boolean free = laid || below(8) == 0;
+            int tile = free ? tile() : some / 6;
+            int kind = free ? kind() : some % 6;
+            if (laid) {
                 compare("lay(" + tile + ", " + kind + ")",
                     () -> { real.lay(tile, kind); return 0; }, () -> { plain.lay(tile, kind); return 0; });
-            } else if (which == layWeight) {
-                compare("lift(" + tile + ", " + kind + ")",
-                    () -> { real.lift(tile, kind); return 0; }, () -> { plain.lift(tile, kind); return 0; });
-            } else if (which == layWeight + 1) {
-                int way = below(20) == 0 ? below(6) - 2 : below(4) == 0 ? NONE : below(2);
-                int sort = below(20) == 0 ? below(4) - 1 : below(2);
-                compare("signal(" + tile + ", " + kind + ", " + way + ", " + sort + ")",
-                    () -> { real.signal(tile, kind, way, sort); return 0; },
-                    () -> { plain.signal(tile, kind, way, sort); return 0; });
-            } else {
-                int straight = below(8) == 0 ? kind : below(2);
-                int station = below(8) == 0 ? NONE : station();
-                compare("platform(" + tile + ", " + straight + ", " + station + ")",
-                    () -> { real.platform(tile, straight, station); return 0; },
-                    () -> { plain.platform(tile, straight, station); return 0; });
+                return;
+            }
+            switch (below(5)) {
+                case 0:
+                    compare("lift(" + tile + ", " + kind + ")",
+                        () -> { real.lift(tile, kind); return 0; }, () -> { plain.lift(tile, kind); return 0; });
+                    break;
+                case 1: {
+                    int way = below(20) == 0 ? below(6) - 2 : below(3) == 0 ? NONE : below(2);
+                    int sort = below(20) == 0 ? below(4) - 1 : below(2);
+                    compare("signal(" + tile + ", " + kind + ", " + way + ", " + sort + ")",
+                        () -> { real.signal(tile, kind, way, sort); return 0; },
+                        () -> { plain.signal(tile, kind, way, sort); return 0; });
+                    break;
+                }
+                default: {
+                    int straight = below(4) == 0 ? kind : kind % 2;
+                    int station = below(8) == 0 ? NONE : station();
+                    compare("platform(" + tile + ", " + straight + ", " + station + ")",
+                        () -> { real.platform(tile, straight, station); return 0; },
+                        () -> { plain.platform(tile, straight, station); return 0; });
+                }
             }
         }
 
@@ -156,7 +172,7 @@ public final class ModelTests {
                     break;
                 }
                 case 1: {
-                    int k = below(5) - 1;
+                    int k = below(3) == 0 ? below(5) - 1 : below(2);
                     compare("next(" + run + ", " + k + ")", () -> real.next(run, k), () -> plain.next(run, k));
                     break;
                 }
@@ -164,8 +180,11 @@ public final class ModelTests {
                     compare("before(" + run + ")", () -> real.before(run), () -> plain.before(run));
                     break;
                 case 3: {
-                    int kind = kind();
-                    compare("block(" + tile + ", " + kind + ")", () -> real.block(tile, kind), () -> plain.block(tile, kind));
+                    boolean free = below(5) == 0;
+                    int some = somePiece();
+                    int its = free ? tile : some / 6;
+                    int kind = free ? kind() : some % 6;
+                    compare("block(" + its + ", " + kind + ")", () -> real.block(its, kind), () -> plain.block(its, kind));
                     break;
                 }
                 case 4:
@@ -180,7 +199,7 @@ public final class ModelTests {
                     break;
                 case 7:
                 case 8: {
-                    int k = below(12) - 1;
+                    int k = below(3) == 0 ? below(12) - 1 : below(4);
                     compare("route(" + run + ", " + station + ", " + k + ")",
                         () -> real.route(run, station, k), () -> plain.route(run, station, k));
                     break;

@@ -29,6 +29,7 @@ public final class PromiseTests {
         promise12();
         promise13();
         promise13Signals();
+        promise13Ring();
         promise14();
         changesAreSeen();
         whatThrowsChangesNothing();
@@ -582,6 +583,28 @@ public final class PromiseTests {
         x.platform(3, 0, 1);
         routeDue(x, even(2, 0), 5, even(3, 0), even(4, 0), even(5, 0));
         routeDue(x, even(2, 0), 1, even(3, 0));
+    }
+
+    private static void promise13Ring() {
+        RouteTracks x = of(4, 4, 0, 3, 1, 0, 2, 4, 4, 1, 6, 1, 8, 2, 9, 0, 10, 5);
+        x.platform(9, 0, 4);
+        routeDue(x, even(0, 3), 4, even(1, 0), odd(2, 4), even(6, 1), even(10, 5), odd(9, 0));
+        routeDue(x, odd(8, 2), 4, odd(4, 1), even(0, 3), even(1, 0), odd(2, 4), even(6, 1), even(10, 5), odd(9, 0));
+        // A target has no route, though it could go round the ring.
+        routeDue(x, odd(9, 0), 4);
+        routeDue(x, even(9, 0), 4);
+        // Costs alike behind a straight next run and behind a curve: the curve is the shorter.
+        RouteTracks y = of(4, 4, 4, 0, 5, 0, 6, 0, 5, 4, 9, 1);
+        y.platform(6, 0, 2);
+        y.platform(9, 1, 2);
+        due("cost over the curve", y.cost(even(4, 0), 2), 28);
+        routeDue(y, even(4, 0), 2, odd(5, 4), even(9, 1));
+        // 16 and 28 behind it, or 12 and 32: of these the first.
+        RouteTracks z = of(4, 4, 4, 0, 5, 0, 6, 4, 10, 1, 5, 4, 9, 1, 13, 1);
+        z.platform(10, 1, 0);
+        z.platform(13, 1, 0);
+        due("cost over either", z.cost(even(4, 0), 0), 44);
+        routeDue(z, even(4, 0), 0, even(5, 0), odd(6, 4), even(10, 1));
     }
 
     private static void countsDue(RouteTracks x, int... counts) {
