@@ -460,9 +460,14 @@ public final class RouteTracks {
         }
 
         private void settleTargets(Rails rails, int station) {
-            for (int run = 0; run < found.length; run++) {
-                if (rails.isOpen(run) && rails.isLastOf(run, station)) {
-                    settle(rails, run, 0);
+            for (int piece = 0; piece < rails.pieces.length; piece++) {
+                if (rails.stationOf(piece) != station) {
+                    continue;
+                }
+                for (int run = 2 * piece; run <= 2 * piece + 1; run++) {
+                    if (rails.isOpen(run) && rails.isLastOf(run, station)) {
+                        settle(rails, run, 0);
+                    }
                 }
             }
         }
