@@ -650,6 +650,9 @@ public final class PromiseTests {
         due("cost, asked again", x.cost(even(0, 0), 0), 48);
         due("cost to another station", x.cost(even(0, 0), 1), NONE);
         due("cost to the first once more", x.cost(even(0, 0), 0), 48);
+        due("block, asked again", x.block(3, 0), piece(0, 0));
+        due("cost after it", x.cost(even(0, 0), 0), 48);
+        due("block after that", x.block(2, 0), piece(0, 0));
         x.platform(1, 0, 0);
         due("cost, a nearer station", x.cost(even(0, 0), 0), 16);
         x.signal(1, 0, 1, 0);
